@@ -26,11 +26,11 @@ public final class ThumbScale {
     private final int[] text;
     private int textLength;
     private final Reader reader;
-    private Market market;
-    /** A text is read into this one, so that a FAULT leaves THE MARKET as it was. */
-    private Market spare;
+    private final Market market;
+    /** A text is read into this one first, so that a FAULT leaves THE MARKET as it was. */
+    private final Market draft;
     private final int[] beliefs;
-    private Book book;
+    private final Book book;
     private final Book[] images;
     private final boolean[] kept;
     private final HonestRows honestRows;
@@ -43,9 +43,9 @@ public final class ThumbScale {
 
     public ThumbScale() {
         text = new int[TEXT_MOST];
-        reader = new Reader(text);
         market = new Market();
-        spare = new Market();
+        draft = new Market();
+        reader = new Reader(text, draft);
         beliefs = new int[WAYS_MOST];
         book = new Book();
         book.lot = 1;
@@ -84,13 +84,11 @@ public final class ThumbScale {
     }
 
     public int market() {
-        int items = reader.read(textLength, spare);
+        int items = reader.read(textLength);
         if (items < 0) {
             return items;
         }
-        Market before = market;
-        market = spare;
-        spare = before;
+        market.become(draft);
         textLength = 0;
         book.forgetMarket();
         for (int i = 0; i < WAYS_MOST; i++) {
@@ -110,7 +108,7 @@ public final class ThumbScale {
             case 0: return market.step[i];
             case 1: return market.dry[i];
             case 2: return market.price[i];
-            case 3: return book.bagsOf(i);
+            case 3: return book.bagsOf(i, ALL_SORTS);
             case 4: return book.trialsOf(i);
             default: return BAD;
         }
@@ -216,7 +214,7 @@ public final class ThumbScale {
         if (!isWay(way) || !isStall(stall) || !isPart(what)) {
             return BAD;
         }
-        int n = book.bagsOf(stall);
+        int n = book.bagsOf(stall, ALL_SORTS);
         if (n > LIKELY_BAGS_MOST) {
             return STATE;
         }
@@ -315,7 +313,7 @@ public final class ThumbScale {
         if (!isStall(stall) || !within(sales, 0, 9999) || !isPart(what)) {
             return NO;
         }
-        int n = book.bagsOf(stall);
+        int n = book.bagsOf(stall, ALL_SORTS);
         if (n == 0) {
             return NO;
         }
@@ -354,8 +352,8 @@ public final class ThumbScale {
         long bestShorts = 0;
         long bestBags = 1;
         for (int sort = 0; sort < SORTS; sort++) {
-            long bags = book.bagsTo(stall, sort);
-            long shorts = book.shortsTo(stall, sort);
+            long bags = book.bagsOf(stall, 1 << sort);
+            long shorts = book.shortsOf(stall, 1 << sort);
             if (bags > 0 && (best == NONE || shorts * bestBags < bestShorts * bags)) {
                 best = sort;
                 bestShorts = shorts;
@@ -369,7 +367,7 @@ public final class ThumbScale {
         if (!isStall(stall) || !within(what, 0, 2)) {
             return BAD;
         }
-        int n = book.bagsOf(stall);
+        int n = book.bagsOf(stall, ALL_SORTS);
         if (n > ROWS_BAGS_MOST) {
             return STATE;
         }
@@ -402,7 +400,7 @@ public final class ThumbScale {
             return NO;
         }
         int m = sortOffs(stall);
-        return m == 0 ? NO : sortedOffs[(m - 1) / 2];
+        return m <= 0 ? NO : sortedOffs[(m - 1) / 2];
     }
 
     public long drift(int stall, int what) {
@@ -606,7 +604,7 @@ public final class ThumbScale {
 
     /** BELIEF times LIKELY of all WAYS added; 0, too, if the STALL has too many BAGS to tell. */
     private long allWeights(int stall) {
-        if (book.bagsOf(stall) > LIKELY_BAGS_MOST) {
+        if (book.bagsOf(stall, ALL_SORTS) > LIKELY_BAGS_MOST) {
             return 0;
         }
         long sum = 0;
@@ -629,7 +627,7 @@ public final class ThumbScale {
     }
 
     private long trulyGiven(int stall) {
-        return book.toldOf(stall) - book.shortsOf(stall);
+        return book.toldOf(stall) - book.shortsOf(stall, ALL_SORTS);
     }
 
     /** Puts the OFFS of a STALL in order; answers how many they are. */
@@ -748,6 +746,25 @@ public final class ThumbScale {
             ways = 0;
         }
 
+        void become(Market other) {
+            less = other.less;
+            just = other.just;
+            more = other.more;
+            stalls = other.stalls;
+            for (int i = 0; i < stalls; i++) {
+                step[i] = other.step[i];
+                dry[i] = other.dry[i];
+                price[i] = other.price[i];
+            }
+            ways = other.ways;
+            for (int w = 0; w < ways; w++) {
+                shape[w] = other.shape[w];
+                grains[w] = other.grains[w];
+                oneIn[w] = other.oneIn[w];
+                sorts[w] = other.sorts[w];
+            }
+        }
+
         void addStall(int itsStep, int itsDry, int itsPrice) {
             if (stalls < STALLS_MOST) {
                 step[stalls] = itsStep;
@@ -829,8 +846,8 @@ public final class ThumbScale {
         private static final int END = 0, WORD = 1, NUMBER = 2, STOP = 3, OTHER = 4;
 
         private final int[] text;
+        private final Market into;
         private int length;
-        private Market into;
         private boolean luckTold;
         private int sign;
         private int place;
@@ -838,24 +855,21 @@ public final class ThumbScale {
         private int value;
         private int taken;
 
-        Reader(int[] text) {
+        Reader(int[] text, Market into) {
             this.text = text;
-            into = null;
+            this.into = into;
         }
 
         /** How many ITEMS, or -10 less FAULT. */
-        int read(int textLength, Market target) {
-            if (target == null || textLength < 0 || textLength > text.length) {
-                return -10;
-            }
-            into = target;
-            into.empty();
-            length = textLength;
+        int read(int textLength) {
+            length = Math.min(textLength, text.length);
             luckTold = false;
             after = 0;
+            into.empty();
             next();
             int items = 0;
-            for (int i = 0; i < length && sign != END; i++) {
+            // an ITEM has a byte at the least
+            while (items < length && sign != END) {
                 if (!readItem()) {
                     return -10 - place;
                 }
@@ -871,7 +885,7 @@ public final class ThumbScale {
             } else if (into.stalls < STALLS_MOST && takeWord("stall")) {
                 whole = readStall();
             } else if (into.ways < WAYS_MOST && takeWord("way")) {
-                whole = readWay();
+                whole = takeWord("thumb") ? readThumb() : readOtherWay();
             }
             if (!whole || sign != STOP) {
                 return false;
@@ -914,7 +928,7 @@ public final class ThumbScale {
             return true;
         }
 
-        private boolean readWay() {
+        private boolean readOtherWay() {
             if (takeWord("honest")) {
                 into.addWay(Market.HONEST, 0, 1, ALL_SORTS);
                 return true;
@@ -923,14 +937,7 @@ public final class ThumbScale {
                 into.addWay(Market.ROUND, 0, 1, ALL_SORTS);
                 return true;
             }
-            if (takeWord("scale")) {
-                return readScale();
-            }
-            return takeWord("thumb") && readThumb();
-        }
-
-        private boolean readScale() {
-            if (!takeNumber(1, 99)) {
+            if (!takeWord("scale") || !takeNumber(1, 99)) {
                 return false;
             }
             into.addWay(Market.SCALE, taken, 1, ALL_SORTS);
@@ -1019,42 +1026,44 @@ public final class ThumbScale {
                 place++;
             }
             after = place;
-            if (place >= length) {
-                sign = END;
-            } else if (isLetter(place)) {
-                nextWord();
-            } else if (isDigit(place)) {
-                nextNumber();
+            sign = signAt(place);
+            if (sign == WORD || sign == NUMBER) {
+                while (after < length && signAt(after) == sign) {
+                    after++;
+                }
+            } else if (sign != END) {
+                after++;
+            }
+            if (sign == NUMBER) {
+                valueNumber();
+            }
+        }
+
+        /** What TOKEN the byte at a place begins or goes on with. */
+        private int signAt(int at) {
+            if (at < 0 || at >= length) {
+                return END;
+            }
+            int here = text[at];
+            if (here >= 'a' && here <= 'z') {
+                return WORD;
+            }
+            if (here >= '0' && here <= '9') {
+                return NUMBER;
+            }
+            return here == ';' ? STOP : OTHER;
+        }
+
+        /** A NUMBER of three or more signs is above 99, or has a 0 ahead of others. */
+        private void valueNumber() {
+            int signs = after - place;
+            if (signs == 1) {
+                value = text[place] - '0';
+            } else if (signs == 2 && text[place] != '0') {
+                value = (text[place] - '0') * 10 + text[place + 1] - '0';
             } else {
-                sign = text[place] == ';' ? STOP : OTHER;
-                after++;
+                sign = OTHER;
             }
-        }
-
-        private void nextWord() {
-            sign = WORD;
-            while (after < length && isLetter(after)) {
-                after++;
-            }
-        }
-
-        private void nextNumber() {
-            value = 0;
-            while (after < length && isDigit(after)) {
-                // held at 100, so that a long NUMBER can't wrap into what it may be
-                value = Math.min(100, value * 10 + text[after] - '0');
-                after++;
-            }
-            boolean zeroAhead = text[place] == '0' && after - place > 1;
-            sign = zeroAhead || value > 99 ? OTHER : NUMBER;
-        }
-
-        private boolean isLetter(int at) {
-            return text[at] >= 'a' && text[at] <= 'z';
-        }
-
-        private boolean isDigit(int at) {
-            return text[at] >= '0' && text[at] <= '9';
         }
     }
 
@@ -1117,12 +1126,10 @@ public final class ThumbScale {
             lot = other.lot;
         }
 
-        int bagsOf(int stall) {
+        int bagsOf(int stall, int sorts) {
             int n = 0;
             for (int b = 0; b < bags; b++) {
-                if (bagStall[b] == stall) {
-                    n++;
-                }
+                n += isOf(b, stall, sorts) ? 1 : 0;
             }
             return n;
         }
@@ -1130,39 +1137,23 @@ public final class ThumbScale {
         int justBagsOf(int stall) {
             int n = 0;
             for (int b = 0; b < bags; b++) {
-                if (bagStall[b] == stall && bagSteps[b] == 0) {
-                    n++;
-                }
+                n += isOf(b, stall, ALL_SORTS) && bagSteps[b] == 0 ? 1 : 0;
             }
             return n;
         }
 
-        int bagsTo(int stall, int sort) {
-            int n = 0;
-            for (int b = 0; b < bags; b++) {
-                if (bagStall[b] == stall && bagSort[b] == sort) {
-                    n++;
-                }
-            }
-            return n;
-        }
-
-        int shortsTo(int stall, int sort) {
+        int toldOf(int stall) {
             int sum = 0;
             for (int b = 0; b < bags; b++) {
-                if (bagStall[b] == stall && bagSort[b] == sort) {
-                    sum += bagShort[b];
-                }
+                sum += isOf(b, stall, ALL_SORTS) ? bagTold[b] : 0;
             }
             return sum;
         }
 
-        int shortsOf(int stall) {
+        int shortsOf(int stall, int sorts) {
             int sum = 0;
             for (int b = 0; b < bags; b++) {
-                if (bagStall[b] == stall) {
-                    sum += bagShort[b];
-                }
+                sum += isOf(b, stall, sorts) ? bagShort[b] : 0;
             }
             return sum;
         }
@@ -1170,21 +1161,13 @@ public final class ThumbScale {
         int shortsAboveNone(int stall) {
             int sum = 0;
             for (int b = 0; b < bags; b++) {
-                if (bagStall[b] == stall) {
-                    sum += Math.max(0, bagShort[b]);
-                }
+                sum += isOf(b, stall, ALL_SORTS) ? Math.max(0, bagShort[b]) : 0;
             }
             return sum;
         }
 
-        int toldOf(int stall) {
-            int sum = 0;
-            for (int b = 0; b < bags; b++) {
-                if (bagStall[b] == stall) {
-                    sum += bagTold[b];
-                }
-            }
-            return sum;
+        private boolean isOf(int b, int stall, int sorts) {
+            return bagStall[b] == stall && (sorts >> bagSort[b] & 1) == 1;
         }
 
         int trialsOf(int stall) {
