@@ -192,6 +192,8 @@ public final class PromiseTest {
         fault("luck 10 10 0;", 11);
         fault("luck 3 3 3;", 9);
         fault("luck 3 3 5;", 9);
+        fault("luck;", 4);
+        fault("luck 3;", 6);
         fault("luck 3 7;", 8);
         fault("luck 3 3 4 0;", 11);
         fault("luck 3 3 4;luck 3 3 4;", 11);
@@ -200,6 +202,8 @@ public final class PromiseTest {
         fault("stall 0 0 0;", 6);
         fault("stall 1 10 0;", 8);
         fault("stall 1 9 100;", 10);
+        fault("stall;", 5);
+        fault("stall 1;", 7);
         fault("stall 1 9;", 9);
         fault("stall 1 9 9 9;", 12);
         fault(times(6, "stall 1 0 0;") + "stall 1 0 0;", 72);
@@ -207,6 +211,9 @@ public final class PromiseTest {
         fault("way scale 0;", 10);
         fault("way scale;", 9);
         fault("way scale 5 in 2;", 12);
+        fault("way thumb;", 9);
+        fault("way thumb 5;", 11);
+        fault("way thumb 5 in;", 14);
         fault("way thumb 0 in 1;", 10);
         fault("way thumb 5 in 0;", 15);
         fault("way thumb 5 in 6;", 15);
@@ -235,6 +242,10 @@ public final class PromiseTest {
         fault("way thumb 5 in 2 to ", 20);
         fault("lucky 1 1 8;", 0);
         fault("luc 1 1 8;", 0);
+        fault("buck 1 1 8;", 0);
+        fault("lucs 1 1 8;", 0);
+        fault("way roundz;", 4);
+        fault("way aound;", 4);
         fault("way honestround;", 4);
         fault("Luck 1 1 8;", 0);
         fault("luck 01 1 8;", 5);
@@ -301,6 +312,11 @@ public final class PromiseTest {
         is("THE TRACE stays", x.trace(), 11);
         is("STEPS sold stay", x.steps(), sold);
         is("THE LOT stays", x.lot(1), 77);
+        typeIn(x, "luck 1 1 8;");
+        is("luck", x.market(), 1);
+        typeIn(x, "luck 8 1 1;");
+        is("luck again in another text", x.market(), 1);
+        is("LESS", x.count(5), 8);
         is("empty market", x.market(), 0);
         is("STALLS", x.count(0), 0);
         is("WAYS", x.count(1), 0);
@@ -464,6 +480,7 @@ public final class PromiseTest {
         is("hours 5 .. 3", x.look(-1, 5, 3, 15, 1, 0), 0);
         is("hours 0 .. 2", x.look(-1, 0, 2, 15, 1, 0), 1);
         is("hours 11", x.look(-1, 11, 11, 15, 1, 0), 1);
+        is("hours 0", x.look(-1, 0, 0, 15, 1, 0), 1);
         is("old", x.look(-1, 0, 11, 1, 1, 0), 2);
         is("young", x.look(-1, 0, 11, 2, 1, 0), 1);
         is("friend, stranger", x.look(-1, 0, 11, 12, 1, 0), 3);
@@ -546,6 +563,13 @@ public final class PromiseTest {
         // 2 of 10, 26 times
         is("2 of 10", x.counted(0), 10);
         is("LOOKS", x.counted(2), 26);
+        ThumbScale three = of("luck 1 6 3;stall 1 0 0;");
+        three.bag(0, 0, 0, 2, 1, 0);
+        int[] due = {3, 6, 9, 10, 10};
+        for (int i = 0; i < 5; i++) {
+            three.seldom(0, 0, 11, 15, 1);
+            is("3 of 10", three.counted(0), due[i]);
+        }
         ThumbScale y = of("luck 0 0 10;stall 1 0 0;");
         for (int b = 0; b < 18; b++) {
             y.bag(0, 0, 0, 2, 1, 0);
@@ -651,6 +675,11 @@ public final class PromiseTest {
             y.belief(b, 9);
         }
         is("no wrap", y.odds(5, 0, 1), 6);
+        is("six of six", y.judged(0), 0);
+        ThumbScale one = of("stall 1 0 0;way scale 5;");
+        is("one way, no bags", one.odds(0, 0, 0), 1);
+        is("one way, no bags", one.odds(0, 0, 1), 1);
+        is("one way, no bags", one.judged(0), 0);
     }
 
     private static void judged() {
@@ -886,6 +915,17 @@ public final class PromiseTest {
         is("lower", x.truly(0, 1), 7);
         x.bag(1, 0, 0, 10, 5, 0);
         is("for nothing", x.truly(1, 0), 0);
+        ThumbScale one = of("stall 5 0 2;");
+        one.bag(0, 0, 0, 7, 1, 0);
+        is("one grain", one.truly(0, 0), 14);
+        is("one grain", one.truly(0, 1), 1);
+        for (int b = 1; b < 30; b++) {
+            one.bag(0, 0, 3, 7, 2, 0);
+        }
+        // 2 * 210 by 59
+        is("30 bags", one.truly(0, 0), 420);
+        is("30 bags", one.truly(0, 1), 59);
+        is("30 bags", one.favoured(0), 3);
         is("for nothing", x.truly(1, 1), 1);
         is("what 2", x.truly(0, 2), NO);
         is("what -1", x.truly(0, -1), NO);
@@ -913,6 +953,11 @@ public final class PromiseTest {
         is("27 and a half", x.cheap(), 0);
         x.bag(3, 0, 0, 10, 1, 0);
         is("20", x.cheap(), 3);
+        ThumbScale six = of(times(6, "stall 1 0 5;"));
+        six.bag(5, 0, 0, 10, 10, 0);
+        is("the sixth", six.cheap(), 5);
+        six.bag(2, 0, 0, 10, 10, 0);
+        is("the third", six.cheap(), 2);
     }
 
     private static void favoured() {
@@ -928,6 +973,13 @@ public final class PromiseTest {
         is("2 is less than 5 by 2", x.favoured(0), 3);
         x.bag(0, 0, 1, 10, 12, 0);
         is("3 by 3", x.favoured(0), 1);
+        ThumbScale far = of("stall 5 0 30;");
+        far.bag(0, 0, 0, 10, 5, 0);
+        far.bag(0, 0, 0, 10, 5, 0);
+        far.bag(0, 0, 2, 10, 4, 0);
+        is("5 is less than 6", far.favoured(0), 0);
+        far.bag(0, 0, 3, 10, 6, 0);
+        is("4 is less than 5", far.favoured(0), 3);
         x.bag(0, 0, 2, 10, 11, 0);
         is("-1", x.favoured(0), 2);
         x.bag(1, 0, 0, 1, 99, 0);
@@ -1026,6 +1078,11 @@ public final class PromiseTest {
         x.trial(1, 0, 1, 999);
         is("none at all", x.drift(1, 0), 0);
         is("none at all", x.drift(1, 1), 1);
+        ThumbScale day = of("stall 5 0 30;");
+        day.trial(0, 1, 100, 107);
+        day.trial(0, 0, 100, 100);
+        is("a day", day.drift(0, 0), 7);
+        is("a day", day.drift(0, 1), 1);
         is("what 2", x.drift(0, 2), NO);
         is("what -1", x.drift(0, -1), NO);
         is("stall 2", x.drift(2, 0), NO);
@@ -1081,6 +1138,15 @@ public final class PromiseTest {
         x.lot(1);
         is("200", x.sales(2, 0, 0, 200), tooShort);
         is("200", x.steps(), sum);
+        int[] draws = {0, 89, 90, 239, 240, 299, 300, 389, 390, 539, 540, 599};
+        int[] due = {-1, -1, 0, 0, 1, 1, 98, 98, 99, 99, 100, 100};
+        for (int i = 0; i < draws.length; i++) {
+            x.lot(aheadOf(draws[i]));
+            is("draw " + draws[i], x.sales(2, 0, 0, 1), due[i] >= 1 ? 1 : 0);
+            is("draw " + draws[i], x.steps(), due[i]);
+        }
+        x.lot(1);
+        x.sales(2, 0, 0, 200);
         is("n 0", x.sales(0, 0, 0, 0), BAD);
         is("n 201", x.sales(0, 0, 0, 201), BAD);
         is("way 4", x.sales(4, 0, 0, 1), BAD);
@@ -1090,6 +1156,15 @@ public final class PromiseTest {
         is("sort -1", x.sales(0, 0, -1, 1), BAD);
         is("steps stay", x.steps(), sum);
         is("the lot stays", x.lot(1), lot);
+    }
+
+    /** A LOT from which the next DRAW is that. */
+    private static int aheadOf(int draw) {
+        int lot = 0;
+        while (((lot * 1103515245 + 12345) >>> 16) % 600 != draw) {
+            lot++;
+        }
+        return lot;
     }
 
     private static void steps() {
@@ -1167,6 +1242,7 @@ public final class PromiseTest {
         is("again", x.back(1), 7);
         is("THE LOT again", x.lot(9), 45);
         is("back 0 again", x.back(0), 6);
+        allOfAnImage();
         ThumbScale y = new ThumbScale();
         is("nothing kept", y.keep(1), 0);
         y.lot(3);
@@ -1175,6 +1251,46 @@ public final class PromiseTest {
         is("nothing back", y.back(1), 0);
         is("THE LOT", y.lot(0), 1);
         is("THE TEXT stays", y.count(4), 5);
+    }
+
+    /** What comes back was overwritten in every part meanwhile. */
+    private static void allOfAnImage() {
+        ThumbScale x = of("stall 5 1 10;stall 10 0 20;");
+        x.keep(1);
+        for (int b = 0; b < 30; b++) {
+            x.bag(1, 4, 2, 100 + b, 50, 0);
+        }
+        for (int t = 0; t < 20; t++) {
+            x.trial(1, t, 100, 100 + 3 * t);
+        }
+        x.seldom(1, 0, 3, 15, 0);
+        long told = x.truly(1, 0);
+        is("keep", x.keep(0), 30);
+        is("empty again", x.back(1), 0);
+        is("no LOOKS", x.counted(0), -2);
+        for (int b = 0; b < 30; b++) {
+            x.bag(0, 1, 0, 1, 999, 0);
+        }
+        for (int t = 0; t < 20; t++) {
+            x.trial(0, 300, 999, 0);
+        }
+        x.seldom(0, 0, 0, 15, 0);
+        x.bag(0, 0, 0, 1, 1, 0);
+        is("back", x.back(0), 30);
+        for (int b = 0; b < 30; b++) {
+            is("STALL", x.about(b, 0), 1);
+            is("HOUR", x.about(b, 1), 4);
+            is("SORT", x.about(b, 2), 2);
+            is("SHORT", x.about(b, 3), 50 + b);
+            is("STEPS", x.about(b, 4), (50 + b + 5) / 10);
+        }
+        is("TOLD", x.truly(1, 0), told);
+        is("TRIALS", x.stall(1, 4), 20);
+        is("MIDDLE", x.middle(1), 27);
+        is("DRIFT", x.drift(1, 0), 3);
+        is("DRIFT", x.drift(1, 1), 1);
+        is("the latest LOOK", x.counted(0), 1);
+        is("its ALL", x.counted(1), 1);
     }
 
     private static void count() {
