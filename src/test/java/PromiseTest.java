@@ -1270,12 +1270,14 @@ public final class PromiseTest {
         is("no LOOKS", x.counted(0), -2);
         for (int b = 0; b < 30; b++) {
             x.bag(0, 1, 0, 1, 999, 0);
+            if (b == 2) {
+                is("another LOOK", x.seldom(0, 0, 11, 15, 0), 1000);
+            }
         }
         for (int t = 0; t < 20; t++) {
             x.trial(0, 300, 999, 0);
         }
-        x.seldom(0, 0, 0, 15, 0);
-        x.bag(0, 0, 0, 1, 1, 0);
+        is("its ALL", x.counted(1), 1000);
         is("back", x.back(0), 30);
         for (int b = 0; b < 30; b++) {
             is("STALL", x.about(b, 0), 1);
