@@ -660,6 +660,10 @@ public final class LooksBoundaryTest {
         Check.is("one alone", one.odds(2, 0, 1), 1);
         Check.is("not believed: 0", one.odds(0, 0, 0), 0);
         Check.is("not believed: by 1", one.odds(0, 0, 1), 1);
+        one.belief(2, 1);
+        Check.is("the least that is not 0", one.odds(2, 0, 0), 1);
+        Check.is("the least that is not 0", one.odds(2, 0, 1), 1);
+        Check.is("the least that is not 0, judged", one.judged(0), 2);
         dearestOdds();
     }
 
@@ -769,6 +773,9 @@ public final class LooksBoundaryTest {
         Check.is("the same by all: NONE", x.follow(0, 1, 0), NONE);
         Check.is("the same STEPS: NONE", x.follow(2, 3, 0), NONE);
         Check.is("apart by all", x.follow(0, 3, 0), 0);
+        ThumbScale four = Scenes.of("stall 1 0 0;way scale 9;way thumb 9 in 2;way thumb 9 in 1;");
+        Check.is("a thumb to all: there are four SORTS", four.follow(0, 1, 0), 0);
+        Check.is("a thumb always, to all: NONE", four.follow(0, 2, 0), NONE);
     }
 
     private static void followRefused() {

@@ -182,6 +182,11 @@ public final class YearBoundaryTest {
         Check.is("one grain less", x.cheap(), 1);
         x.bag(4, 0, 0, 1, 2, 0);
         Check.is("one grain more", x.cheap(), 4);
+        ThumbScale first = Scenes.of("stall 1 0 5;".repeat(6));
+        for (int i = 5; i >= 0; i--) {
+            first.bag(i, 0, 0, 10, 9, 0);
+        }
+        Check.is("of all six the first", first.cheap(), 0);
         ThumbScale close = Scenes.of("stall 1 0 99;stall 1 0 99;");
         close.bag(0, 0, 0, 998, 999, 0);
         close.bag(1, 0, 0, 997, 998, 0);
@@ -683,6 +688,7 @@ public final class YearBoundaryTest {
         Check.is("no TRIALS", x.count(3), 0);
         Check.is("no LOOKS", x.counted(2), STATE);
         Check.is("THE LOT at first", x.lot(6), 1);
+        overwriteAll(x);
         Check.is("the full one", x.back(1), 30);
         for (int b = 0; b < 30; b++) {
             Check.is("STALL of " + b, x.about(b, 0), 1);
@@ -699,10 +705,28 @@ public final class YearBoundaryTest {
         Check.is("DAYS", x.drift(1, 0), 2);
         Check.is("LOOKS", x.counted(2), 2);
         Check.is("its ALL", x.counted(1), 1000000);
+        // 3 tenths, all 6 as short: 729, twice
+        Check.is("what it told", x.counted(0), 1458);
         Check.is("THE LOT", x.lot(0), LEAST);
         Check.is("FULL again", x.bag(0, 0, 0, 1, 1, 0), FULL);
         Check.is("an IMAGE may come back twice", x.back(1), 30);
         Check.is("THE LOT again", x.lot(0), LEAST);
+    }
+
+    /** Other BAGS, TRIALS and a LOOK in every place that an IMAGE must bring back. */
+    private static void overwriteAll(ThumbScale x) {
+        for (int b = 0; b < 30; b++) {
+            x.bag(0, 11 - b % 12, 3 - b % 4, 7, 900, 0);
+            if (b == 3) {
+                Check.is("another LOOK", x.seldom(0, 0, 11, 15, 0), 10000);
+            }
+        }
+        for (int t = 0; t < 20; t++) {
+            x.trial(0, 365 - t * t, 999, 5);
+        }
+        Check.is("other BAGS", x.stall(0, 3), 30);
+        Check.is("other TRIALS", x.stall(0, 4), 20);
+        Check.is("another ALL", x.counted(1), 10000);
     }
 
     private static void nothingElseKept() {
