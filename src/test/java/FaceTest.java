@@ -61,6 +61,10 @@ public final class FaceTest {
             is(inner.getName() + " public", String.valueOf(Modifier.isPublic(m) || Modifier.isProtected(m)), "false");
         }
         is("classes, 12 at most", String.valueOf(c.getDeclaredClasses().length < 12), "true");
+        fewFields(c);
+        for (Class<?> inner : c.getDeclaredClasses()) {
+            fewFields(inner);
+        }
         System.out.println("FaceTest: " + wrong + " wrong");
         if (wrong != 0) {
             System.exit(1);
@@ -105,6 +109,15 @@ public final class FaceTest {
                 is(m.getName(), m.getParameterCount() + " parameters", "7 at most");
             }
         }
+    }
+
+    /** Rule 11: some twenty fields beside the constants. */
+    private static void fewFields(Class<?> c) {
+        int fields = 0;
+        for (Field f : c.getDeclaredFields()) {
+            fields += Modifier.isStatic(f.getModifiers()) || f.isSynthetic() ? 0 : 1;
+        }
+        is(c.getName() + " has 20 fields at most", String.valueOf(fields <= 20), "true");
     }
 
     private static void fields(Class<?> c) throws ReflectiveOperationException {
